@@ -31,7 +31,7 @@ public final class FaceTest {
         "public int Reconcile.index(int,int) throws java.lang.ArrayIndexOutOfBoundsException",
         "public int Reconcile.best(int,int,int)"));
 
-    /** Rule 6's classes that the document names, and the one that it names beside them. */
+    /** What the document names; the second does not stand in rule 6, but the document asks for it. */
     private static final Set<String> THROWN = Set.of("ArithmeticException", "ArrayIndexOutOfBoundsException");
 
     public static void main(String[] args) throws IOException {
