@@ -168,7 +168,7 @@ public final class Reconcile {
         return 0;
     }
 
-    /** Rule 6 of LANGUAGE.md does not list this exception, but the document asks for it by name. */
+    /** Not in the list of LANGUAGE.md's rule 6, which yet asks for exactly what the document names. */
     public int index(int i, int side) throws ArrayIndexOutOfBoundsException {
         if (!latest.holds(i)) {
             throw new ArrayIndexOutOfBoundsException("no such pair");

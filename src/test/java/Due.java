@@ -6,6 +6,21 @@ final class Due {
     private Due() {
     }
 
+    /** A test of one sentence: it is broken by a wrong answer, by an exception, and if it asks nothing. */
+    static void test(String sentence, Runnable calls) {
+        int wrongBefore = wrong;
+        int askedBefore = asked;
+        try {
+            calls.run();
+        } catch (RuntimeException e) {
+            is("an exception, " + e, 1, 0);
+        }
+        isTrue("something is asked", asked > askedBefore);
+        if (wrong > wrongBefore) {
+            System.out.println("BROKEN: " + sentence);
+        }
+    }
+
     static void is(String call, long got, long want) {
         asked++;
         if (got != want) {
