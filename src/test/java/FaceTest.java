@@ -5,13 +5,15 @@ import java.lang.reflect.Method;
 import java.lang.reflect.Modifier;
 import java.nio.file.Files;
 import java.nio.file.Path;
+import java.util.ArrayList;
 import java.util.Arrays;
+import java.util.List;
 import java.util.Set;
 import java.util.TreeSet;
 import java.util.regex.Matcher;
 import java.util.regex.Pattern;
 
-/** The public face is the document's and no more; and what of LANGUAGE.md a look at the text shows. */
+/** The public face is the document's and no more; and what of LANGUAGE.md a look at the class shows. */
 public final class FaceTest {
     private static final Set<String> FACE = new TreeSet<>(Arrays.asList(
         "public static final int Reconcile.NONE",
@@ -41,6 +43,7 @@ public final class FaceTest {
         membersAreTheFace();
         classesInsideAreStaticAndHidden();
         namesOfTheFaceStandOnce();
+        classesStaySmall();
         textKeepsToTheRules(Files.readString(Path.of("src/main/java/Reconcile.java")));
         Due.end();
     }
@@ -49,7 +52,6 @@ public final class FaceTest {
         Set<String> seen = new TreeSet<>();
         for (Field f : Reconcile.class.getDeclaredFields()) {
             addUnlessPrivate(seen, f.getModifiers(), f.toGenericString());
-            Due.isTrue(f + " is no static state", !Modifier.isStatic(f.getModifiers()) || Modifier.isFinal(f.getModifiers()));
         }
         for (Method m : Reconcile.class.getDeclaredMethods()) {
             addUnlessPrivate(seen, m.getModifiers(), m.toGenericString());
@@ -92,9 +94,29 @@ public final class FaceTest {
         }
     }
 
+    /** Rules 5 and 11: no static state in any class, and few classes, fields and parameters. */
+    private static void classesStaySmall() {
+        List<Class<?>> classes = new ArrayList<>(Arrays.asList(Reconcile.class.getDeclaredClasses()));
+        classes.add(Reconcile.class);
+        Due.isTrue("classes, at most 12: " + classes.size(), classes.size() <= 12);
+        for (Class<?> c : classes) {
+            int fields = 0;
+            for (Field f : c.getDeclaredFields()) {
+                boolean isStatic = Modifier.isStatic(f.getModifiers());
+                fields += isStatic ? 0 : 1;
+                Due.isTrue(f + " is no static state", !isStatic || Modifier.isFinal(f.getModifiers()));
+            }
+            Due.isTrue(c + " has at most 20 fields: " + fields, fields <= 20);
+            for (Method m : c.getDeclaredMethods()) {
+                Due.isTrue(m + " takes at most 7 parameters", m.getParameterCount() <= 7);
+            }
+        }
+    }
+
     private static void textKeepsToTheRules(String text) {
-        String[] never = {"package ", "catch", "finally", "::", "synchronized", "assert ", "Exact(", "hashCode",
-            "Random", "Thread", "System.nano", "System.current", "System.getenv", "java.io", "java.nio", "java.net"};
+        String[] never = {"package ", "import ", "catch", "finally", "::", "->", "static {", "synchronized", "assert ",
+            "Exact(", "hashCode", "Random", "Thread", "System.nano", "System.current", "System.getenv", "java.io",
+            "java.nio", "java.net"};
         for (String word : never) {
             Due.isTrue("the text has no " + word, !text.contains(word));
         }
